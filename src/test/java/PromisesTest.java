@@ -1,0 +1,781 @@
+/** Each promise of the document by itself: ordinary inputs, the edges it names, wrong inputs. */
+public final class PromisesTest {
+    private static final int NONE = -1;
+    private static final int RANGE = -2;
+    private static final int STATE = -3;
+    private static final int FULL = -4;
+    private static final int THROWS = -1000;
+
+    public static void main(String[] args) {
+        newObject();
+        add();
+        end();
+        endWithoutRoom();
+        endWithManyRows();
+        sync();
+        syncFillsSectors();
+        cut();
+        cutEachPlace();
+        cutAndPokes();
+        off();
+        start();
+        startChoosesHead();
+        rowsCounted();
+        row();
+        at();
+        poke();
+        peek();
+        wrong();
+        bad();
+        badForms();
+        moreRowsThanEndTakes();
+        backup();
+        restore();
+        differ();
+        state();
+        Check.finish();
+    }
+
+    private static int at(LibraryDisk x, int row, int i) {
+        try {
+            return x.at(row, i);
+        } catch (ArrayIndexOutOfBoundsException e) {
+            return THROWS;
+        }
+    }
+
+    private static int put(LibraryDisk x, int kind, int size) {
+        for (int i = 0; i < size; i++) {
+            x.add(100 + i);
+        }
+        return x.end(kind);
+    }
+
+    private static void dueSector(LibraryDisk x, int sector, int[] want) {
+        for (int i = 0; i < 64; i++) {
+            Check.same("peek(" + sector + ", " + i + ")", x.peek(sector, i), want[i]);
+        }
+    }
+
+    private static void newObject() {
+        Check.part("1, a new object");
+        int[][] sizes = {{Integer.MIN_VALUE, 3}, {-1, 3}, {0, 3}, {2, 3}, {3, 3}, {4, 4}, {39, 39},
+            {40, 40}, {41, 40}, {Integer.MAX_VALUE, 40}};
+        for (int[] size : sizes) {
+            LibraryDisk x = new LibraryDisk(size[0]);
+            Check.same("state(3) of " + size[0], x.state(3), size[1]);
+            Check.same("state(2)", x.state(2), 1);
+            Check.same("rows()", x.rows(), 0);
+            Check.same("peek behind the last", x.peek(size[1], 0), NONE);
+            for (int s = 0; s < size[1]; s++) {
+                dueSector(x, s, new int[64]);
+            }
+        }
+    }
+
+    private static void add() {
+        Check.part("2, add");
+        LibraryDisk x = new LibraryDisk(5);
+        for (int i = 0; i < 40; i++) {
+            x.add(i);
+        }
+        x.add(200);
+        x.add(201);
+        Check.same("end(0)", x.end(0), 0);
+        Check.same("row(0, 1)", x.row(0, 1), 40);
+        Check.same("at(0, 0)", at(x, 0, 0), 0);
+        Check.same("at(0, 39)", at(x, 0, 39), 39);
+        Check.same("at(0, 40)", at(x, 0, 40), THROWS);
+        x.add(-1);
+        x.add(256);
+        x.add(0x1234);
+        Check.same("end(0)", x.end(0), 1);
+        Check.same("at(1, 0)", at(x, 1, 0), 255);
+        Check.same("at(1, 1)", at(x, 1, 1), 0);
+        Check.same("at(1, 2)", at(x, 1, 2), 0x34);
+        x.off();
+        x.add(9);
+        x.start();
+        Check.same("end(1) of what was collected while OFF", x.end(1), 0);
+        Check.same("row(0, 1)", x.row(0, 1), 1);
+        Check.same("at(0, 0)", at(x, 0, 0), 9);
+    }
+
+    private static void end() {
+        Check.part("3, end");
+        LibraryDisk x = new LibraryDisk(5);
+        x.add(5);
+        Check.same("end(-1)", x.end(-1), RANGE);
+        Check.same("end(4)", x.end(4), RANGE);
+        Check.same("end(max)", x.end(Integer.MAX_VALUE), RANGE);
+        Check.same("end(min)", x.end(Integer.MIN_VALUE), RANGE);
+        Check.same("rows()", x.rows(), 0);
+        Check.same("end(3)", x.end(3), 0);
+        Check.same("row(0, 1): it stayed collected", x.row(0, 1), 1);
+        Check.same("end(0)", x.end(0), 1);
+        Check.same("row(1, 1): nothing is collected any more", x.row(1, 1), 0);
+        x.sync();
+        Check.same("end(1) behind a sync", x.end(1), 2);
+        x.off();
+        x.add(6);
+        Check.same("end(1) while OFF", x.end(1), STATE);
+        Check.same("end(9) while OFF", x.end(9), STATE);
+        x.start();
+        Check.same("end(2)", x.end(2), 2);
+        Check.same("at(2, 0): it stayed collected", at(x, 2, 0), 6);
+    }
+
+    private static void endWithoutRoom() {
+        Check.part("3, end without room");
+        LibraryDisk x = new LibraryDisk(4);
+        Check.same("40 bytes", put(x, 0, 40), 0);
+        Check.same("11 bytes: sector 2 is full to the last byte", put(x, 0, 11), 1);
+        Check.same("40 bytes", put(x, 0, 40), 2);
+        Check.same("12 bytes: one too many", put(x, 0, 12), FULL);
+        Check.same("a wrong kind before FULL", x.end(4), RANGE);
+        Check.same("rows()", x.rows(), 3);
+        Check.same("sync()", x.sync(), 3);
+        Check.same("no sector is left", x.end(0), FULL);
+        x.off();
+        Check.same("start()", x.start(), 3);
+        Check.same("no sector is left", x.end(0), FULL);
+
+        LibraryDisk y = new LibraryDisk(4);
+        put(y, 0, 0);
+        y.sync();
+        Check.same("a sync's rows get a sector of their own", put(y, 0, 40), 1);
+        Check.same("12 bytes", put(y, 0, 12), FULL);
+        Check.same("it stays collected", y.end(1), FULL);
+        y.off();
+        Check.same("start()", y.start(), 1);
+        Check.same("there is room again", put(y, 0, 40), 1);
+        Check.same("11 bytes", put(y, 0, 11), 2);
+        Check.same("rows()", y.rows(), 3);
+    }
+
+    private static void endWithManyRows() {
+        Check.part("3, end with 300 rows");
+        LibraryDisk x = new LibraryDisk(40);
+        for (int i = 0; i < 300; i++) {
+            Check.same("end(" + i % 4 + ")", x.end(i % 4), i);
+        }
+        x.add(1);
+        Check.same("end(0) of row 300", x.end(0), FULL);
+        Check.same("end(4)", x.end(4), RANGE);
+        Check.same("sync()", x.sync(), 13);
+        Check.same("end(0) of row 300", x.end(0), FULL);
+        Check.same("rows()", x.rows(), 300);
+        Check.same("row(299, 2)", x.row(299, 2), 13);
+        Check.same("row(26, 2)", x.row(26, 2), 2);
+        Check.same("row(27, 2)", x.row(27, 2), 3);
+    }
+
+    private static void sync() {
+        Check.part("4, sync");
+        LibraryDisk x = new LibraryDisk(6);
+        Check.same("sync() without rows", x.sync(), 1);
+        dueSector(x, 1, Bytes.head(1, 0));
+        dueSector(x, 0, new int[64]);
+        x.add(7);
+        x.add(8);
+        x.end(2);
+        x.end(0);
+        Check.same("sync()", x.sync(), 2);
+        dueSector(x, 2, Bytes.log(2, 6, 2, 2, 7, 8, 0, 0));
+        dueSector(x, 0, Bytes.head(2, 1));
+        dueSector(x, 1, Bytes.head(1, 0));
+        x.add(255);
+        x.end(3);
+        Check.same("sync()", x.sync(), 2);
+        dueSector(x, 3, Bytes.log(3, 3, 3, 1, 255));
+        dueSector(x, 1, Bytes.head(3, 2));
+        dueSector(x, 0, Bytes.head(2, 1));
+        Check.same("sync() with nothing new", x.sync(), 1);
+        dueSector(x, 0, Bytes.head(4, 2));
+        dueSector(x, 4, new int[64]);
+        x.add(1);
+        Check.same("sync() with bytes collected, but no row", x.sync(), 1);
+        Check.same("end(0)", x.end(0), 3);
+        Check.same("row(3, 1)", x.row(3, 1), 1);
+        x.off();
+        Check.same("sync() while OFF", x.sync(), STATE);
+        Check.same("state(0)", x.state(0), 5);
+        dueSector(x, 4, new int[64]);
+    }
+
+    private static void syncFillsSectors() {
+        Check.part("4, sync fills sectors");
+        LibraryDisk x = new LibraryDisk(8);
+        put(x, 0, 30);
+        put(x, 1, 22);
+        put(x, 2, 0);
+        put(x, 3, 40);
+        put(x, 0, 7);
+        Check.same("sync()", x.sync(), 4);
+        int[] sectors = {2, 3, 3, 4, 4};
+        for (int i = 0; i < sectors.length; i++) {
+            Check.same("row(" + i + ", 2)", x.row(i, 2), sectors[i]);
+        }
+        Check.same("bytes of rows in 2", x.peek(2, 4), 32);
+        Check.same("bytes of rows in 3", x.peek(3, 4), 26);
+        Check.same("bytes of rows in 4", x.peek(4, 4), 51);
+        Check.same("state(1)", x.state(1), 3);
+        dueSector(x, 1, Bytes.head(1, 3));
+        put(x, 0, 40);
+        put(x, 0, 11);
+        Check.same("sync() of 55 bytes", x.sync(), 2);
+        Check.same("bytes of rows in 5", x.peek(5, 4), 55);
+        Check.same("its last byte", x.peek(5, 59), 110);
+
+        // What lay there before a sector was written must not shine through.
+        LibraryDisk y = new LibraryDisk(3);
+        y.poke(2, 50, 77);
+        y.poke(1, 50, 77);
+        y.end(1);
+        y.sync();
+        dueSector(y, 2, Bytes.log(1, 2, 1, 0));
+        dueSector(y, 1, Bytes.head(1, 1));
+    }
+
+    private static void cut() {
+        Check.part("5, cut");
+        LibraryDisk x = new LibraryDisk(6);
+        Check.same("cut(0, 0) without a sync", x.cut(0, 0), STATE);
+        Check.same("cut(9, 99) without a sync", x.cut(9, 99), STATE);
+        x.end(1);
+        x.sync();
+        Check.same("cut(-1, 0)", x.cut(-1, 0), RANGE);
+        Check.same("cut(3, 0)", x.cut(3, 0), RANGE);
+        Check.same("cut(0, -1)", x.cut(0, -1), RANGE);
+        Check.same("cut(0, 65)", x.cut(0, 65), RANGE);
+        Check.same("cut(2, 65)", x.cut(2, 65), RANGE);
+        Check.same("cut(max, max)", x.cut(Integer.MAX_VALUE, Integer.MAX_VALUE), RANGE);
+        Check.same("cut(min, min)", x.cut(Integer.MIN_VALUE, Integer.MIN_VALUE), RANGE);
+        Check.same("state(2)", x.state(2), 1);
+        x.end(2);
+        x.add(1);
+        Check.same("cut(2, 64)", x.cut(2, 64), 1);
+        Check.same("state(2)", x.state(2), 0);
+        Check.same("cut(0, 0) while OFF", x.cut(0, 0), STATE);
+        Check.same("cut(9, 0) while OFF", x.cut(9, 0), STATE);
+        Check.same("start()", x.start(), 1);
+        Check.same("cut(0, 0) behind the start", x.cut(0, 0), STATE);
+        Check.same("end(0)", x.end(0), 1);
+        Check.same("row(1, 1): what was collected is gone", x.row(1, 1), 0);
+        x.sync();
+        x.sync();
+        Check.same("cut(2, 0): the latest sync has one write", x.cut(2, 0), RANGE);
+        Check.same("cut(0, 0)", x.cut(0, 0), 1);
+        Check.same("start(): the sync before it stands", x.start(), 2);
+        Check.same("state(0)", x.state(0), 2);
+    }
+
+    /** A sync of two sectors and a head, broken off at every place. */
+    private static void cutEachPlace() {
+        Check.part("5, cut at each place");
+        for (int keep = 0; keep <= 3; keep++) {
+            for (int torn = 0; torn <= 64; torn++) {
+                LibraryDisk x = new LibraryDisk(6);
+                x.end(1);
+                x.sync();
+                x.sync();
+                x.poke(3, 60, 5);
+                int[][] old = {Bytes.head(2, 1), Bytes.head(1, 1), Bytes.log(1, 2, 1, 0), new int[64], new int[64]};
+                old[3][60] = 5;
+                put(x, 2, 2);
+                put(x, 3, 40);
+                put(x, 0, 40);
+                x.sync();
+                int[] order = {3, 4, 1};
+                int[][] now = new int[5][64];
+                for (int s = 0; s < 5; s++) {
+                    for (int i = 0; i < 64; i++) {
+                        now[s][i] = x.peek(s, i);
+                    }
+                }
+                x.cut(keep, torn);
+                for (int w = 0; w < 3; w++) {
+                    int bytes = w < keep ? 64 : w == keep ? torn : 0;
+                    int[] want = old[order[w]].clone();
+                    System.arraycopy(now[order[w]], 0, want, 0, bytes);
+                    dueSector(x, order[w], want);
+                }
+                dueSector(x, 0, old[0]);
+                dueSector(x, 2, old[2]);
+                // Two heads differ in bytes 3 and 7 and in their sums, so that 63 bytes may do.
+                int[] torn1 = old[1].clone();
+                System.arraycopy(now[1], 0, torn1, 0, keep > 2 ? 64 : keep == 2 ? torn : 0);
+                boolean acknowledged = Bytes.sumIsRight(torn1) && torn1[3] == 3;
+                Check.same("start() behind cut(" + keep + ", " + torn + ")", x.start(), acknowledged ? 4 : 1);
+                Check.same("bad()", x.bad(), 0);
+            }
+        }
+    }
+
+    private static void cutAndPokes() {
+        Check.part("5, cut and pokes");
+        for (int keep = 0; keep <= 2; keep++) {
+            LibraryDisk x = new LibraryDisk(6);
+            x.poke(2, 1, 0x40);
+            x.poke(2, 33, 0x40);
+            x.end(1);
+            x.sync();
+            x.poke(2, 1, 0x80);
+            x.poke(2, 33, 0x80);
+            x.poke(1, 1, 0x80);
+            x.poke(1, 33, 0x80);
+            x.poke(0, 10, 0x80);
+            x.poke(5, 10, 0x80);
+            x.cut(keep, 20);
+            Check.same("keep " + keep + ", peek(2, 1)", x.peek(2, 1), keep == 0 ? 0 : 0x80);
+            Check.same("keep " + keep + ", peek(2, 33)", x.peek(2, 33), keep == 0 ? 0x40 : 0x80);
+            Check.same("keep " + keep + ", peek(1, 1)", x.peek(1, 1), keep == 2 ? 0x80 : 0);
+            Check.same("keep " + keep + ", peek(1, 33)", x.peek(1, 33), keep == 2 ? 0x80 : 0);
+            Check.same("keep " + keep + ", peek(0, 10)", x.peek(0, 10), 0x80);
+            Check.same("keep " + keep + ", peek(5, 10)", x.peek(5, 10), 0x80);
+        }
+    }
+
+    private static void off() {
+        Check.part("6, off");
+        LibraryDisk x = new LibraryDisk(5);
+        x.end(0);
+        x.sync();
+        x.end(1);
+        x.end(2);
+        x.add(3);
+        Check.same("off()", x.off(), 2);
+        Check.same("state(2)", x.state(2), 0);
+        Check.same("rows()", x.rows(), 0);
+        Check.same("off() while OFF", x.off(), STATE);
+        Check.same("start()", x.start(), 1);
+        Check.same("end(0)", x.end(0), 1);
+        Check.same("row(1, 1): what was collected is gone", x.row(1, 1), 0);
+        Check.same("sync()", x.sync(), 2);
+        Check.same("off() with all laid down", x.off(), 0);
+    }
+
+    private static void start() {
+        Check.part("7, start");
+        LibraryDisk x = new LibraryDisk(6);
+        Check.same("start() while ON", x.start(), STATE);
+        x.off();
+        Check.same("start() of 0s", x.start(), 0);
+        Check.same("state(0)", x.state(0), 0);
+        put(x, 1, 3);
+        put(x, 2, 40);
+        put(x, 3, 20);
+        x.sync();
+        put(x, 0, 0);
+        x.off();
+        Check.same("start()", x.start(), 3);
+        Check.same("row(0, 0)", x.row(0, 0), 1);
+        Check.same("row(1, 1)", x.row(1, 1), 40);
+        Check.same("row(2, 2)", x.row(2, 2), 3);
+        Check.same("at(0, 2)", at(x, 0, 2), 102);
+        Check.same("at(1, 39)", at(x, 1, 39), 139);
+        Check.same("at(2, 19)", at(x, 2, 19), 119);
+        Check.same("sync(): nothing is to be laid down", x.sync(), 1);
+        Check.same("state(0): the numbers go on", x.state(0), 2);
+        x.off();
+        x.poke(0, 63, 1);
+        x.poke(1, 63, 1);
+        Check.same("start() without a right head", x.start(), STATE);
+        Check.same("state(2)", x.state(2), 0);
+        Check.same("rows()", x.rows(), 0);
+        x.poke(1, 63, 1);
+        Check.same("start() from the other head", x.start(), 3);
+        Check.same("state(0)", x.state(0), 1);
+        put(x, 1, 1);
+        x.sync();
+        dueSector(x, 4, Bytes.log(2, 3, 1, 1, 100));
+        dueSector(x, 0, Bytes.head(2, 3));
+    }
+
+    private static void startChoosesHead() {
+        Check.part("7, start chooses a head");
+        long[][] heads = {
+            // number and count of head 0, of head 1, the one that is due (-1: neither)
+            {4, 0, 5, 1, 1}, {6, 0, 5, 1, 0}, {5, 0, 5, 1, 0}, {0, 0, 0, 1, 0}, {0, 1, 1, 0, 1},
+            {255, 0, 256, 1, 1}, {0x7FFFFFFFL, 0, 0x80000000L, 1, 1}, {0xFFFFFFFFL, 0, 1, 1, 0},
+            {9, 3, 8, 1, 0}, {9, 4, 8, 1, 1}, {9, 0x80000000L, 8, 1, 1}, {9, 0xFFFFFFFFL, 8, 1, 1},
+            {9, 0x01000000L, 8, 1, 1}, {9, 4, 8, 4, -1}, {7, 2, 8, 4, 0},
+        };
+        for (long[] h : heads) {
+            LibraryDisk x = new LibraryDisk(5);
+            x.off();
+            Bytes.forge(x, 0, Bytes.head(h[0], h[1]));
+            Bytes.forge(x, 1, Bytes.head(h[2], h[3]));
+            String of = " of heads " + h[0] + ", " + h[1] + " and " + h[2] + ", " + h[3];
+            Check.same("start()" + of, x.start(), h[4] < 0 ? STATE : 0);
+            if (h[4] >= 0) {
+                int k = (int) h[4] * 2;
+                Check.same("state(0)" + of, x.state(0), (int) h[k]);
+                Check.same("state(1)" + of, x.state(1), h[k + 1]);
+                x.sync();
+                Check.same("state(0) behind a sync" + of, x.state(0), (int) (h[k] + 1));
+                dueSector(x, (int) ((h[k] + 1) % 2), Bytes.head((h[k] + 1) % (1L << 32), h[k + 1]));
+            }
+        }
+
+        // A head's sum counts, and nothing behind its two numbers does.
+        LibraryDisk y = new LibraryDisk(5);
+        y.off();
+        int[] odd = Bytes.head(3, 1);
+        odd[30] = 99;
+        Bytes.putNumber(odd, 60, Bytes.sum(odd));
+        Bytes.forge(y, 0, odd);
+        Check.same("start()", y.start(), 0);
+        Check.same("state(0)", y.state(0), 3);
+        y.off();
+        y.poke(0, 30, 1);
+        Check.same("start()", y.start(), 0);
+        Check.same("state(0)", y.state(0), 0);
+    }
+
+    private static void rowsCounted() {
+        Check.part("8, rows");
+        LibraryDisk x = new LibraryDisk(5);
+        Check.same("rows()", x.rows(), 0);
+        x.add(1);
+        Check.same("rows() with bytes collected", x.rows(), 0);
+        x.end(0);
+        Check.same("rows()", x.rows(), 1);
+        x.sync();
+        x.end(0);
+        Check.same("rows()", x.rows(), 2);
+        x.cut(2, 0);
+        Check.same("rows() while OFF", x.rows(), 0);
+        x.start();
+        Check.same("rows()", x.rows(), 1);
+        x.off();
+        Check.same("rows() while OFF", x.rows(), 0);
+    }
+
+    private static void row() {
+        Check.part("9, row");
+        LibraryDisk x = new LibraryDisk(5);
+        Check.same("row(0, 0) without rows", x.row(0, 0), NONE);
+        put(x, 3, 4);
+        put(x, 0, 0);
+        Check.same("row(0, 0)", x.row(0, 0), 3);
+        Check.same("row(0, 1)", x.row(0, 1), 4);
+        Check.same("row(0, 2)", x.row(0, 2), -1);
+        Check.same("row(1, 0)", x.row(1, 0), 0);
+        Check.same("row(1, 1)", x.row(1, 1), 0);
+        Check.same("row(0, 3)", x.row(0, 3), NONE);
+        Check.same("row(0, -1)", x.row(0, -1), NONE);
+        Check.same("row(-1, 0)", x.row(-1, 0), NONE);
+        Check.same("row(2, 0)", x.row(2, 0), NONE);
+        Check.same("row(max, 0)", x.row(Integer.MAX_VALUE, 0), NONE);
+        Check.same("row(min, 0)", x.row(Integer.MIN_VALUE, 0), NONE);
+        x.sync();
+        put(x, 1, 1);
+        Check.same("row(1, 2)", x.row(1, 2), 2);
+        Check.same("row(2, 2)", x.row(2, 2), -1);
+        x.sync();
+        Check.same("row(1, 2)", x.row(1, 2), 2);
+        Check.same("row(2, 2)", x.row(2, 2), 3);
+        x.off();
+        Check.same("row(0, 0) while OFF", x.row(0, 0), NONE);
+        x.start();
+        Check.same("row(2, 2)", x.row(2, 2), 3);
+        Check.same("row(2, 0)", x.row(2, 0), 1);
+    }
+
+    private static void at() {
+        Check.part("10, at");
+        LibraryDisk x = new LibraryDisk(5);
+        Check.same("at(0, 0) without rows", at(x, 0, 0), NONE);
+        x.add(255);
+        x.add(128);
+        x.end(0);
+        x.end(0);
+        for (int turn = 0; turn < 3; turn++) {
+            Check.same("at(0, 0)", at(x, 0, 0), 255);
+            Check.same("at(0, 1)", at(x, 0, 1), 128);
+            Check.same("at(0, 2)", at(x, 0, 2), THROWS);
+            Check.same("at(0, -1)", at(x, 0, -1), THROWS);
+            Check.same("at(0, max)", at(x, 0, Integer.MAX_VALUE), THROWS);
+            Check.same("at(0, min)", at(x, 0, Integer.MIN_VALUE), THROWS);
+            Check.same("at(1, 0) of an empty row", at(x, 1, 0), THROWS);
+            Check.same("at(2, 0)", at(x, 2, 0), NONE);
+            Check.same("at(2, 99)", at(x, 2, 99), NONE);
+            Check.same("at(-1, -1)", at(x, -1, -1), NONE);
+            if (turn == 0) {
+                x.sync();
+            } else {
+                x.off();
+                Check.same("at(0, 0) while OFF", at(x, 0, 0), NONE);
+                x.start();
+            }
+        }
+    }
+
+    private static void poke() {
+        Check.part("11, poke");
+        LibraryDisk x = new LibraryDisk(5);
+        x.add(1);
+        x.end(1);
+        x.sync();
+        Check.same("poke(2, 7, 0x103)", x.poke(2, 7, 0x103), 2);
+        Check.same("peek(2, 7)", x.peek(2, 7), 2);
+        Check.same("at(0, 0): rows stay", at(x, 0, 0), 1);
+        Check.same("poke(2, 7, -1)", x.poke(2, 7, -1), 253);
+        Check.same("poke(2, 7, 0)", x.poke(2, 7, 0), 253);
+        Check.same("poke(-1, 0, 1)", x.poke(-1, 0, 1), NONE);
+        Check.same("poke(5, 0, 1)", x.poke(5, 0, 1), NONE);
+        Check.same("poke(0, -1, 1)", x.poke(0, -1, 1), NONE);
+        Check.same("poke(0, 64, 1)", x.poke(0, 64, 1), NONE);
+        Check.same("poke(1, -64, 1)", x.poke(1, -64, 1), NONE);
+        Check.same("poke(67108864, 0, 1)", x.poke(67108864, 0, 1), NONE);
+        Check.same("poke(min, max, 1)", x.poke(Integer.MIN_VALUE, Integer.MAX_VALUE, 1), NONE);
+        dueSector(x, 0, new int[64]);
+        dueSector(x, 1, Bytes.head(1, 1));
+        Check.same("poke(4, 63, 255)", x.poke(4, 63, 255), 255);
+        x.off();
+        Check.same("poke(4, 63, 1) while OFF", x.poke(4, 63, 1), 254);
+    }
+
+    private static void peek() {
+        Check.part("12, peek");
+        LibraryDisk x = new LibraryDisk(5);
+        Check.same("peek(0, 0)", x.peek(0, 0), 0);
+        Check.same("peek(4, 63)", x.peek(4, 63), 0);
+        Check.same("peek(5, 0)", x.peek(5, 0), NONE);
+        Check.same("peek(-1, 0)", x.peek(-1, 0), NONE);
+        Check.same("peek(0, 64)", x.peek(0, 64), NONE);
+        Check.same("peek(0, -1)", x.peek(0, -1), NONE);
+        Check.same("peek(67108864, 0)", x.peek(67108864, 0), NONE);
+        Check.same("peek(max, max)", x.peek(Integer.MAX_VALUE, Integer.MAX_VALUE), NONE);
+        Check.same("peek(min, min)", x.peek(Integer.MIN_VALUE, Integer.MIN_VALUE), NONE);
+        x.poke(3, 2, 200);
+        x.off();
+        Check.same("peek(3, 2) while OFF", x.peek(3, 2), 200);
+    }
+
+    private static void wrong() {
+        Check.part("13, wrong");
+        LibraryDisk x = new LibraryDisk(5);
+        Check.same("wrong(0)", x.wrong(0), NONE);
+        x.poke(1, 0, 1);
+        x.poke(3, 59, 128);
+        x.poke(4, 63, 1);
+        int[] want = {1, 3, 4, NONE, NONE};
+        for (int i = 0; i < want.length; i++) {
+            Check.same("wrong(" + i + ")", x.wrong(i), want[i]);
+        }
+        Check.same("wrong(-1)", x.wrong(-1), NONE);
+        Check.same("wrong(max)", x.wrong(Integer.MAX_VALUE), NONE);
+        Check.same("wrong(min)", x.wrong(Integer.MIN_VALUE), NONE);
+        x.off();
+        Check.same("wrong(1) while OFF", x.wrong(1), 3);
+        x.poke(3, 59, 128);
+        Check.same("wrong(1)", x.wrong(1), 4);
+    }
+
+    private static void bad() {
+        Check.part("14, bad");
+        LibraryDisk x = new LibraryDisk(7);
+        Check.same("bad()", x.bad(), 0);
+        for (int i = 0; i < 4; i++) {
+            put(x, i, i);
+            x.sync();
+        }
+        x.poke(3, 20, 1);
+        x.poke(5, 62, 1);
+        x.poke(6, 1, 1);
+        Check.same("bad() before a start", x.bad(), 0);
+        x.off();
+        Check.same("bad() before a start", x.bad(), 0);
+        Check.same("start()", x.start(), 2);
+        Check.same("bad(): sector 6 does not belong to the head", x.bad(), 2);
+        Check.same("row(0, 0)", x.row(0, 0), 0);
+        Check.same("row(1, 0)", x.row(1, 0), 2);
+        Check.same("row(1, 2)", x.row(1, 2), 4);
+        x.poke(3, 20, 1);
+        Check.same("bad() stays", x.bad(), 2);
+        x.off();
+        Check.same("bad() while OFF", x.bad(), 2);
+        x.poke(0, 0, 1);
+        x.poke(1, 0, 1);
+        x.start();
+        Check.same("bad() behind a start that found no head", x.bad(), 2);
+        x.poke(0, 0, 1);
+        x.start();
+        Check.same("bad()", x.bad(), 1);
+        Check.same("end(0): behind the bad sector", x.end(0), 3);
+        x.sync();
+        Check.same("row(3, 2)", x.row(3, 2), 6);
+    }
+
+    /** Sectors with right sums: how many rows are read of each, or NONE if it is bad. */
+    private static void badForms() {
+        Check.part("14, forms of bad sectors");
+        int[] fullOfEmptyRows = new int[55];
+        int[] longRow = new int[55];
+        longRow[1] = 41;
+        dueForm("nothing", Bytes.log(1, 0), 0);
+        dueForm("two rows", Bytes.log(1, 5, 3, 1, 9, 0, 0), 2);
+        dueForm("another sync's number", Bytes.log(77, 5, 3, 1, 9, 0, 0), 2);
+        dueForm("bytes behind those told", Bytes.log(1, 2, 3, 0, 9, 9, 9), 1);
+        dueForm("KIND 4", Bytes.log(1, 2, 4, 0), NONE);
+        dueForm("KIND 255", Bytes.log(1, 2, 255, 0), NONE);
+        dueForm("KIND 4 of the second", Bytes.log(1, 4, 1, 0, 4, 0), NONE);
+        dueForm("a row cut short", Bytes.log(1, 4, 1, 3, 9, 9), NONE);
+        dueForm("a row without its size", Bytes.log(1, 3, 1, 0, 1), NONE);
+        dueForm("size 41", Bytes.log(1, 43, longRow), NONE);
+        longRow[1] = 40;
+        dueForm("size 40", Bytes.log(1, 42, longRow), 1);
+        dueForm("54 bytes", Bytes.log(1, 54, fullOfEmptyRows), 27);
+        dueForm("55 bytes, one of them alone", Bytes.log(1, 55, fullOfEmptyRows), NONE);
+        fullOfEmptyRows[53] = 1;
+        fullOfEmptyRows[52] = 1;
+        dueForm("55 bytes", Bytes.log(1, 55, fullOfEmptyRows), 27);
+        dueForm("56 bytes", Bytes.log(1, 56, new int[55]), NONE);
+        dueForm("255 bytes", Bytes.log(1, 255, new int[55]), NONE);
+        int[] row55 = new int[55];
+        row55[1] = 40;
+        row55[43] = 12;
+        dueForm("a row that reaches into the sum", Bytes.log(1, 56, row55), NONE);
+    }
+
+    private static void dueForm(String form, int[] sector, int rows) {
+        LibraryDisk x = new LibraryDisk(5);
+        x.end(2);
+        x.sync();
+        x.end(1);
+        x.sync();
+        Bytes.forge(x, 2, sector);
+        x.off();
+        Check.same("start() with " + form, x.start(), Math.max(rows, 0) + 1);
+        Check.same("bad() with " + form, x.bad(), rows < 0 ? 1 : 0);
+        Check.same("row(.., 2) with " + form, x.row(Math.max(rows, 0), 2), 3);
+    }
+
+    /** A sector spoilt and mended: a start then finds more rows than end would take. */
+    private static void moreRowsThanEndTakes() {
+        Check.part("3 and 7, more than 300 rows");
+        LibraryDisk x = new LibraryDisk(40);
+        for (int i = 0; i < 300; i++) {
+            x.end(i % 4);
+        }
+        x.sync();
+        x.poke(2, 5, 1);
+        x.off();
+        Check.same("start()", x.start(), 273);
+        for (int i = 273; i < 300; i++) {
+            Check.same("end(3)", x.end(3), i);
+        }
+        Check.same("end(3)", x.end(3), FULL);
+        x.sync();
+        x.poke(2, 5, 1);
+        x.off();
+        Check.same("start()", x.start(), 327);
+        Check.same("end(0)", x.end(0), FULL);
+        Check.same("row(326, 0)", x.row(326, 0), 3);
+        Check.same("row(326, 2)", x.row(326, 2), 14);
+    }
+
+    private static void backup() {
+        Check.part("15, backup");
+        LibraryDisk x = new LibraryDisk(5);
+        Check.same("backup()", x.backup(), 0);
+        x.end(1);
+        x.sync();
+        x.sync();
+        x.poke(4, 4, 4);
+        Check.same("backup() in place of the one before", x.backup(), 2);
+        x.poke(4, 4, 4);
+        x.off();
+        Check.same("backup() while OFF", x.backup(), STATE);
+        Check.same("differ(): the backup stays", x.differ(), 1);
+        x.restore();
+        Check.same("peek(4, 4)", x.peek(4, 4), 4);
+        dueSector(x, 0, Bytes.head(2, 1));
+        x.poke(0, 0, 1);
+        x.start();
+        Check.same("backup(): the number of the head that was read", x.backup(), 1);
+    }
+
+    private static void restore() {
+        Check.part("16, restore");
+        LibraryDisk x = new LibraryDisk(5);
+        Check.same("restore() while ON", x.restore(), STATE);
+        x.off();
+        Check.same("restore() without a backup", x.restore(), STATE);
+        x.start();
+        put(x, 1, 5);
+        x.sync();
+        x.backup();
+        Check.same("restore() while ON", x.restore(), STATE);
+        put(x, 2, 6);
+        x.sync();
+        x.off();
+        Check.same("restore()", x.restore(), 1);
+        Check.same("state(2)", x.state(2), 0);
+        dueSector(x, 0, new int[64]);
+        dueSector(x, 1, Bytes.head(1, 1));
+        dueSector(x, 3, new int[64]);
+        x.poke(2, 7, 1);
+        Check.same("restore() once more", x.restore(), 1);
+        Check.same("start()", x.start(), 1);
+        Check.same("at(0, 4)", at(x, 0, 4), 104);
+        Check.same("state(0)", x.state(0), 1);
+    }
+
+    private static void differ() {
+        Check.part("17, differ");
+        LibraryDisk x = new LibraryDisk(5);
+        Check.same("differ() without a backup", x.differ(), NONE);
+        x.backup();
+        Check.same("differ()", x.differ(), 0);
+        x.end(0);
+        x.sync();
+        Check.same("differ()", x.differ(), 2);
+        x.poke(4, 0, 1);
+        x.poke(4, 63, 1);
+        Check.same("differ()", x.differ(), 3);
+        x.poke(4, 0, 1);
+        Check.same("differ(): the last byte counts", x.differ(), 3);
+        x.poke(4, 63, 1);
+        Check.same("differ()", x.differ(), 2);
+        x.off();
+        Check.same("differ() while OFF", x.differ(), 2);
+        x.restore();
+        Check.same("differ()", x.differ(), 0);
+    }
+
+    private static void state() {
+        Check.part("18, state");
+        LibraryDisk x = new LibraryDisk(6);
+        dueState(x, 0, 0, 1);
+        put(x, 0, 40);
+        put(x, 0, 40);
+        dueState(x, 0, 0, 1);
+        x.sync();
+        dueState(x, 1, 2, 1);
+        x.sync();
+        dueState(x, 2, 2, 1);
+        x.end(1);
+        x.sync();
+        dueState(x, 3, 3, 1);
+        x.cut(1, 0);
+        dueState(x, 3, 3, 0);
+        x.start();
+        dueState(x, 2, 2, 1);
+        x.off();
+        dueState(x, 2, 2, 0);
+    }
+
+    private static void dueState(LibraryDisk x, int number, int count, int on) {
+        Check.same("state(0)", x.state(0), number);
+        Check.same("state(1)", x.state(1), count);
+        Check.same("state(2)", x.state(2), on);
+        Check.same("state(3)", x.state(3), 6);
+        Check.same("state(4)", x.state(4), NONE);
+        Check.same("state(-1)", x.state(-1), NONE);
+        Check.same("state(max)", x.state(Integer.MAX_VALUE), NONE);
+        Check.same("state(min)", x.state(Integer.MIN_VALUE), NONE);
+    }
+}
