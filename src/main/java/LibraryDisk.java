@@ -450,8 +450,12 @@ public final class LibraryDisk {
 
         int sumOf(int sector) {
             int sum = 0;
-            for (int i = 0; i < SUM_PLACE; i++) {
-                int mixed = sum ^ byteAt(sector, i);
+            if (!holds(sector, 0)) {
+                return sum;
+            }
+            int first = sector * SECTOR_SIZE;
+            for (int i = first; i < first + SUM_PLACE; i++) {
+                int mixed = sum ^ (bytes[i] & 0xFF);
                 sum = ((mixed << 13) | (mixed >>> 19)) * SUM_FACTOR;
             }
             return sum;
@@ -471,10 +475,13 @@ public final class LibraryDisk {
             }
         }
 
+        /** Bytes from first on, up to but without end, of the same sector there. */
         void copyPart(Sectors from, int sector, int first, int end) {
-            for (int i = first; i < end; i++) {
-                put(sector, i, from.byteAt(sector, i));
+            if (first < 0 || first >= end || !holds(sector, end - 1) || !from.holds(sector, end - 1)) {
+                return;
             }
+            int place = sector * SECTOR_SIZE + first;
+            System.arraycopy(from.bytes, place, bytes, place, end - first);
         }
 
         void copyAll(Sectors from) {

@@ -172,7 +172,7 @@ public final class AgainstModelTest {
         }
     }
 
-    /** All bytes at once now and then; these looks change nothing and are not counted. */
+    /** All bytes at once now and then. These looks change nothing; counted, they would end the run. */
     private void lookAtAll() {
         int counted = calls;
         for (int s = 0; s < m.n; s++) {

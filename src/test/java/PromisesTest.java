@@ -316,10 +316,12 @@ public final class PromisesTest {
         Check.part("5, cut and pokes");
         for (int keep = 0; keep <= 2; keep++) {
             LibraryDisk x = new LibraryDisk(6);
+            x.poke(1, 0, 0x40);
             x.poke(2, 1, 0x40);
             x.poke(2, 33, 0x40);
             x.end(1);
             x.sync();
+            x.poke(2, 0, 0x80);
             x.poke(2, 1, 0x80);
             x.poke(2, 33, 0x80);
             x.poke(1, 1, 0x80);
@@ -327,6 +329,8 @@ public final class PromisesTest {
             x.poke(0, 10, 0x80);
             x.poke(5, 10, 0x80);
             x.cut(keep, 20);
+            Check.same("keep " + keep + ", peek(1, 0)", x.peek(1, 0), keep == 0 ? 0x40 : 0);
+            Check.same("keep " + keep + ", peek(2, 0)", x.peek(2, 0), keep == 0 ? 0 : 0x80);
             Check.same("keep " + keep + ", peek(2, 1)", x.peek(2, 1), keep == 0 ? 0 : 0x80);
             Check.same("keep " + keep + ", peek(2, 33)", x.peek(2, 33), keep == 0 ? 0x40 : 0x80);
             Check.same("keep " + keep + ", peek(1, 1)", x.peek(1, 1), keep == 2 ? 0x80 : 0);
@@ -572,6 +576,8 @@ public final class PromisesTest {
         Check.same("wrong(1) while OFF", x.wrong(1), 3);
         x.poke(3, 59, 128);
         Check.same("wrong(1)", x.wrong(1), 4);
+        x.poke(0, 60, 1);
+        Check.same("wrong(0)", x.wrong(0), 0);
     }
 
     private static void bad() {
@@ -740,6 +746,9 @@ public final class PromisesTest {
         Check.same("differ(): the last byte counts", x.differ(), 3);
         x.poke(4, 63, 1);
         Check.same("differ()", x.differ(), 2);
+        x.poke(0, 0, 1);
+        Check.same("differ(): the first byte counts", x.differ(), 3);
+        x.poke(0, 0, 1);
         x.off();
         Check.same("differ() while OFF", x.differ(), 2);
         x.restore();
