@@ -1,26 +1,29 @@
 import java.util.Random;
 
-/** Random runs of at most 512 calls, always the same ones, each answer compared with the model's. */
+/**
+ * Random runs of at most 512 calls, always the same ones, each answer compared with the model's. A
+ * run ends with a look at all that is there, as far as calls are left.
+ */
 public final class AgainstModelTest {
-    private static final int RUNS = 3000;
-    private static final int CALLS = 512;
+    private static final int RUNS = 6000;
 
     private final Random random;
-    private final LibraryDisk x;
+    private final Disk x;
     private final DiskModel m;
     /** How often a run spoils bytes, and how big its rows are: else few runs would get far. */
     private final int pokes;
     private final int rowSize;
-    private int calls = 0;
+    private final int callsForLook;
 
     private AgainstModelTest(long seed) {
         random = new Random(seed);
         int[] sizes = {Integer.MIN_VALUE, -1, 0, 2, 3, 4, 5, 6, 8, 12, 20, 39, 40, 41, Integer.MAX_VALUE};
         int sectors = sizes[random.nextInt(sizes.length)];
-        x = new LibraryDisk(sectors);
+        x = new Disk(sectors);
         m = new DiskModel(sectors);
         pokes = random.nextInt(4);
         rowSize = random.nextInt(3) == 0 ? 44 : 1 + random.nextInt(6);
+        callsForLook = random.nextInt(450);
     }
 
     public static void main(String[] args) {
@@ -32,14 +35,18 @@ public final class AgainstModelTest {
     }
 
     private void go() {
-        while (calls < CALLS && Check.allRight()) {
+        while (stepsLeft() && Check.allRight()) {
             step();
         }
+        lookAtAll();
+    }
+
+    private boolean stepsLeft() {
+        return x.callsLeft() > callsForLook;
     }
 
     private void due(String call, int got, int want) {
-        calls++;
-        Check.same("call " + calls + ", " + call, got, want);
+        Check.same("call " + (Disk.MOST_CALLS - x.callsLeft()) + ", " + call, got, want);
     }
 
     private int near(int low, int high) {
@@ -79,11 +86,10 @@ public final class AgainstModelTest {
 
     private void makeRow() {
         int bytes = random.nextInt(rowSize);
-        for (int i = 0; i < bytes && calls < CALLS - 1; i++) {
+        for (int i = 0; i < bytes && x.callsLeft() > 1; i++) {
             int b = random.nextInt(4) == 0 ? random.nextInt() : random.nextInt(256);
             x.add(b);
             m.add(b);
-            calls++;
         }
         int kind = near(0, 3);
         due("end(" + kind + ")", x.end(kind), m.end(kind));
@@ -104,7 +110,7 @@ public final class AgainstModelTest {
         int i = near(0, 63);
         int mask = near(0, 255);
         due("poke(" + sector + ", " + i + ", " + mask + ")", x.poke(sector, i, mask), m.poke(sector, i, mask));
-        if (random.nextBoolean() && calls < CALLS) {
+        if (random.nextBoolean() && x.callsLeft() > 0) {
             due("the same poke", x.poke(sector, i, mask), m.poke(sector, i, mask));
         }
     }
@@ -113,7 +119,7 @@ public final class AgainstModelTest {
     private void forge() {
         int sector = random.nextInt(Math.min(m.n, 5));
         int[] wanted = sector < 2 ? forgedHead() : forgedLog();
-        for (int i = 0; i < 64 && calls < CALLS; i++) {
+        for (int i = 0; i < 64 && x.callsLeft() > 0; i++) {
             int mask = m.disk[sector][i] ^ wanted[i];
             if (mask != 0) {
                 due("poke of a forged sector", x.poke(sector, i, mask), m.poke(sector, i, mask));
@@ -151,43 +157,44 @@ public final class AgainstModelTest {
         int b = near(0, 3);
         int sector = near(0, m.n - 1);
         int i = near(0, 63);
-        switch (random.nextInt(9)) {
+        switch (random.nextInt(8)) {
             case 0: due("rows()", x.rows(), m.rows()); break;
             case 1: due("row(" + a + ", " + b + ")", x.row(a, b), m.row(a, b)); break;
-            case 2: due("at(" + a + ", " + b + ")", at(a, b), m.at(a, b)); break;
+            case 2: due("at(" + a + ", " + b + ")", x.at(a, b), m.at(a, b)); break;
             case 3: due("peek(" + sector + ", " + i + ")", x.peek(sector, i), m.peek(sector, i)); break;
             case 4: due("wrong(" + b + ")", x.wrong(b), m.wrong(b)); break;
             case 5: due("bad()", x.bad(), m.bad()); break;
             case 6: due("differ()", x.differ(), m.differ()); break;
-            case 7: due("state(" + b + ")", x.state(b), m.state(b)); break;
-            default: lookAtAll(); break;
+            default: due("state(" + b + ")", x.state(b), m.state(b)); break;
         }
     }
 
-    private int at(int row, int i) {
-        try {
-            return x.at(row, i);
-        } catch (ArrayIndexOutOfBoundsException e) {
-            return DiskModel.THROWS;
-        }
-    }
-
-    /** All bytes at once now and then. These looks change nothing; counted, they would end the run. */
+    /** From a random sector and row on, since the calls left seldom do for all of them. */
     private void lookAtAll() {
-        int counted = calls;
-        for (int s = 0; s < m.n; s++) {
-            for (int i = 0; i < 64; i++) {
+        if (random.nextBoolean()) {
+            lookAtRows();
+        }
+        int first = random.nextInt(m.n);
+        for (int k = 0; k < m.n; k++) {
+            int s = (first + k) % m.n;
+            for (int i = 0; i < 64 && x.callsLeft() > 0; i++) {
                 due("peek(" + s + ", " + i + ")", x.peek(s, i), m.peek(s, i));
             }
         }
-        for (int k = 0; k < m.rows(); k++) {
-            for (int what = 0; what < 3; what++) {
+        lookAtRows();
+    }
+
+    private void lookAtRows() {
+        int rows = m.rows();
+        int first = rows == 0 ? 0 : random.nextInt(rows);
+        for (int r = 0; r < rows; r++) {
+            int k = (first + r) % rows;
+            for (int what = 0; what < 3 && x.callsLeft() > 0; what++) {
                 due("row(" + k + ", " + what + ")", x.row(k, what), m.row(k, what));
             }
-            for (int i = -1; i <= m.row(k, 1); i++) {
-                due("at(" + k + ", " + i + ")", at(k, i), m.at(k, i));
+            for (int i = -1; i <= m.row(k, 1) && x.callsLeft() > 0; i++) {
+                due("at(" + k + ", " + i + ")", x.at(k, i), m.at(k, i));
             }
         }
-        calls = counted;
     }
 }

@@ -1,3 +1,5 @@
+import java.util.Arrays;
+
 /** Bytes of sectors as the document tells them, made apart from the class under test. */
 final class Bytes {
     private Bytes() {
@@ -48,13 +50,26 @@ final class Bytes {
         return sector;
     }
 
-    /** Pokes a sector until it is what is wanted. */
-    static void forge(LibraryDisk x, int sector, int[] wanted) {
-        for (int i = 0; i < 64; i++) {
-            int now = x.peek(sector, i);
-            if (now != wanted[i]) {
-                x.poke(sector, i, now ^ wanted[i]);
+    /** The bytes of rows as Disk.put makes them, of kinds and sizes by turns. */
+    static int[] rows(int... kindsAndSizes) {
+        int[] bytes = new int[0];
+        for (int k = 0; k < kindsAndSizes.length; k += 2) {
+            int from = bytes.length;
+            int size = kindsAndSizes[k + 1];
+            bytes = Arrays.copyOf(bytes, from + 2 + size);
+            bytes[from] = kindsAndSizes[k];
+            bytes[from + 1] = size;
+            for (int i = 0; i < size; i++) {
+                bytes[from + 2 + i] = 100 + i;
             }
         }
+        return bytes;
+    }
+
+    /** What a write leaves of which only the first so many bytes are done. */
+    static int[] torn(int[] before, int[] written, int done) {
+        int[] sector = before.clone();
+        System.arraycopy(written, 0, sector, 0, done);
+        return sector;
     }
 }

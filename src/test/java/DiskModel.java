@@ -7,7 +7,7 @@ import java.util.List;
  * the class with it. A cut is told by doing the writes and the pokes over again.
  */
 final class DiskModel {
-    static final int THROWS = -1000;
+    static final int THROWS = Disk.THROWS;
 
     static final class Row {
         int kind;

@@ -1,10 +1,10 @@
 /** Each promise of the document by itself: ordinary inputs, the edges it names, wrong inputs. */
 public final class PromisesTest {
-    private static final int NONE = -1;
-    private static final int RANGE = -2;
-    private static final int STATE = -3;
-    private static final int FULL = -4;
-    private static final int THROWS = -1000;
+    private static final int NONE = Disk.NONE;
+    private static final int RANGE = Disk.RANGE;
+    private static final int STATE = Disk.STATE;
+    private static final int FULL = Disk.FULL;
+    private static final int THROWS = Disk.THROWS;
 
     public static void main(String[] args) {
         newObject();
@@ -13,6 +13,7 @@ public final class PromisesTest {
         endWithoutRoom();
         endWithManyRows();
         sync();
+        syncWithoutRows();
         syncFillsSectors();
         cut();
         cutEachPlace();
@@ -36,46 +37,25 @@ public final class PromisesTest {
         Check.finish();
     }
 
-    private static int at(LibraryDisk x, int row, int i) {
-        try {
-            return x.at(row, i);
-        } catch (ArrayIndexOutOfBoundsException e) {
-            return THROWS;
-        }
-    }
-
-    private static int put(LibraryDisk x, int kind, int size) {
-        for (int i = 0; i < size; i++) {
-            x.add(100 + i);
-        }
-        return x.end(kind);
-    }
-
-    private static void dueSector(LibraryDisk x, int sector, int[] want) {
-        for (int i = 0; i < 64; i++) {
-            Check.same("peek(" + sector + ", " + i + ")", x.peek(sector, i), want[i]);
-        }
-    }
-
     private static void newObject() {
         Check.part("1, a new object");
         int[][] sizes = {{Integer.MIN_VALUE, 3}, {-1, 3}, {0, 3}, {2, 3}, {3, 3}, {4, 4}, {39, 39},
             {40, 40}, {41, 40}, {Integer.MAX_VALUE, 40}};
         for (int[] size : sizes) {
-            LibraryDisk x = new LibraryDisk(size[0]);
+            Disk x = new Disk(size[0]);
             Check.same("state(3) of " + size[0], x.state(3), size[1]);
             Check.same("state(2)", x.state(2), 1);
             Check.same("rows()", x.rows(), 0);
             Check.same("peek behind the last", x.peek(size[1], 0), NONE);
             for (int s = 0; s < size[1]; s++) {
-                dueSector(x, s, new int[64]);
+                new Disk(size[0]).dueSector(s, new int[64]);
             }
         }
     }
 
     private static void add() {
         Check.part("2, add");
-        LibraryDisk x = new LibraryDisk(5);
+        Disk x = new Disk(5);
         for (int i = 0; i < 40; i++) {
             x.add(i);
         }
@@ -83,27 +63,27 @@ public final class PromisesTest {
         x.add(201);
         Check.same("end(0)", x.end(0), 0);
         Check.same("row(0, 1)", x.row(0, 1), 40);
-        Check.same("at(0, 0)", at(x, 0, 0), 0);
-        Check.same("at(0, 39)", at(x, 0, 39), 39);
-        Check.same("at(0, 40)", at(x, 0, 40), THROWS);
+        Check.same("at(0, 0)", x.at(0, 0), 0);
+        Check.same("at(0, 39)", x.at(0, 39), 39);
+        Check.same("at(0, 40)", x.at(0, 40), THROWS);
         x.add(-1);
         x.add(256);
         x.add(0x1234);
         Check.same("end(0)", x.end(0), 1);
-        Check.same("at(1, 0)", at(x, 1, 0), 255);
-        Check.same("at(1, 1)", at(x, 1, 1), 0);
-        Check.same("at(1, 2)", at(x, 1, 2), 0x34);
+        Check.same("at(1, 0)", x.at(1, 0), 255);
+        Check.same("at(1, 1)", x.at(1, 1), 0);
+        Check.same("at(1, 2)", x.at(1, 2), 0x34);
         x.off();
         x.add(9);
         x.start();
         Check.same("end(1) of what was collected while OFF", x.end(1), 0);
         Check.same("row(0, 1)", x.row(0, 1), 1);
-        Check.same("at(0, 0)", at(x, 0, 0), 9);
+        Check.same("at(0, 0)", x.at(0, 0), 9);
     }
 
     private static void end() {
         Check.part("3, end");
-        LibraryDisk x = new LibraryDisk(5);
+        Disk x = new Disk(5);
         x.add(5);
         Check.same("end(-1)", x.end(-1), RANGE);
         Check.same("end(4)", x.end(4), RANGE);
@@ -122,16 +102,16 @@ public final class PromisesTest {
         Check.same("end(9) while OFF", x.end(9), STATE);
         x.start();
         Check.same("end(2)", x.end(2), 2);
-        Check.same("at(2, 0): it stayed collected", at(x, 2, 0), 6);
+        Check.same("at(2, 0): it stayed collected", x.at(2, 0), 6);
     }
 
     private static void endWithoutRoom() {
         Check.part("3, end without room");
-        LibraryDisk x = new LibraryDisk(4);
-        Check.same("40 bytes", put(x, 0, 40), 0);
-        Check.same("11 bytes: sector 2 is full to the last byte", put(x, 0, 11), 1);
-        Check.same("40 bytes", put(x, 0, 40), 2);
-        Check.same("12 bytes: one too many", put(x, 0, 12), FULL);
+        Disk x = new Disk(4);
+        Check.same("40 bytes", x.put(0, 40), 0);
+        Check.same("11 bytes: sector 2 is full to the last byte", x.put(0, 11), 1);
+        Check.same("40 bytes", x.put(0, 40), 2);
+        Check.same("12 bytes: one too many", x.put(0, 12), FULL);
         Check.same("a wrong kind before FULL", x.end(4), RANGE);
         Check.same("rows()", x.rows(), 3);
         Check.same("sync()", x.sync(), 3);
@@ -140,22 +120,22 @@ public final class PromisesTest {
         Check.same("start()", x.start(), 3);
         Check.same("no sector is left", x.end(0), FULL);
 
-        LibraryDisk y = new LibraryDisk(4);
-        put(y, 0, 0);
+        Disk y = new Disk(4);
+        y.put(0, 0);
         y.sync();
-        Check.same("a sync's rows get a sector of their own", put(y, 0, 40), 1);
-        Check.same("12 bytes", put(y, 0, 12), FULL);
+        Check.same("a sync's rows get a sector of their own", y.put(0, 40), 1);
+        Check.same("12 bytes", y.put(0, 12), FULL);
         Check.same("it stays collected", y.end(1), FULL);
         y.off();
         Check.same("start()", y.start(), 1);
-        Check.same("there is room again", put(y, 0, 40), 1);
-        Check.same("11 bytes", put(y, 0, 11), 2);
+        Check.same("there is room again", y.put(0, 40), 1);
+        Check.same("11 bytes", y.put(0, 11), 2);
         Check.same("rows()", y.rows(), 3);
     }
 
     private static void endWithManyRows() {
         Check.part("3, end with 300 rows");
-        LibraryDisk x = new LibraryDisk(40);
+        Disk x = new Disk(40);
         for (int i = 0; i < 300; i++) {
             Check.same("end(" + i % 4 + ")", x.end(i % 4), i);
         }
@@ -172,45 +152,53 @@ public final class PromisesTest {
 
     private static void sync() {
         Check.part("4, sync");
-        LibraryDisk x = new LibraryDisk(6);
+        Disk x = new Disk(6);
         Check.same("sync() without rows", x.sync(), 1);
-        dueSector(x, 1, Bytes.head(1, 0));
-        dueSector(x, 0, new int[64]);
+        x.dueSector(1, Bytes.head(1, 0));
         x.add(7);
         x.add(8);
         x.end(2);
         x.end(0);
         Check.same("sync()", x.sync(), 2);
-        dueSector(x, 2, Bytes.log(2, 6, 2, 2, 7, 8, 0, 0));
-        dueSector(x, 0, Bytes.head(2, 1));
-        dueSector(x, 1, Bytes.head(1, 0));
+        x.dueSector(2, Bytes.log(2, 6, 2, 2, 7, 8, 0, 0));
+        x.dueSector(0, Bytes.head(2, 1));
+        x.dueSector(1, Bytes.head(1, 0));
         x.add(255);
         x.end(3);
         Check.same("sync()", x.sync(), 2);
-        dueSector(x, 3, Bytes.log(3, 3, 3, 1, 255));
-        dueSector(x, 1, Bytes.head(3, 2));
-        dueSector(x, 0, Bytes.head(2, 1));
+        x.dueSector(3, Bytes.log(3, 3, 3, 1, 255));
+        x.dueSector(1, Bytes.head(3, 2));
+        x.dueSector(0, Bytes.head(2, 1));
+    }
+
+    private static void syncWithoutRows() {
+        Check.part("4, sync without rows");
+        Disk x = new Disk(4);
+        x.end(1);
+        x.sync();
         Check.same("sync() with nothing new", x.sync(), 1);
-        dueSector(x, 0, Bytes.head(4, 2));
-        dueSector(x, 4, new int[64]);
+        x.dueSector(0, Bytes.head(2, 1));
+        x.dueSector(3, new int[64]);
         x.add(1);
         Check.same("sync() with bytes collected, but no row", x.sync(), 1);
-        Check.same("end(0)", x.end(0), 3);
-        Check.same("row(3, 1)", x.row(3, 1), 1);
+        Check.same("end(0)", x.end(0), 1);
+        Check.same("row(1, 1)", x.row(1, 1), 1);
         x.off();
         Check.same("sync() while OFF", x.sync(), STATE);
-        Check.same("state(0)", x.state(0), 5);
-        dueSector(x, 4, new int[64]);
+        Check.same("state(0)", x.state(0), 3);
+        x.dueSector(0, Bytes.head(2, 1));
+        x.dueSector(1, Bytes.head(3, 1));
+        x.dueSector(3, new int[64]);
     }
 
     private static void syncFillsSectors() {
         Check.part("4, sync fills sectors");
-        LibraryDisk x = new LibraryDisk(8);
-        put(x, 0, 30);
-        put(x, 1, 22);
-        put(x, 2, 0);
-        put(x, 3, 40);
-        put(x, 0, 7);
+        Disk x = new Disk(8);
+        x.put(0, 30);
+        x.put(1, 22);
+        x.put(2, 0);
+        x.put(3, 40);
+        x.put(0, 7);
         Check.same("sync()", x.sync(), 4);
         int[] sectors = {2, 3, 3, 4, 4};
         for (int i = 0; i < sectors.length; i++) {
@@ -220,26 +208,26 @@ public final class PromisesTest {
         Check.same("bytes of rows in 3", x.peek(3, 4), 26);
         Check.same("bytes of rows in 4", x.peek(4, 4), 51);
         Check.same("state(1)", x.state(1), 3);
-        dueSector(x, 1, Bytes.head(1, 3));
-        put(x, 0, 40);
-        put(x, 0, 11);
+        x.dueSector(1, Bytes.head(1, 3));
+        x.put(0, 40);
+        x.put(0, 11);
         Check.same("sync() of 55 bytes", x.sync(), 2);
         Check.same("bytes of rows in 5", x.peek(5, 4), 55);
         Check.same("its last byte", x.peek(5, 59), 110);
 
         // What lay there before a sector was written must not shine through.
-        LibraryDisk y = new LibraryDisk(3);
+        Disk y = new Disk(3);
         y.poke(2, 50, 77);
         y.poke(1, 50, 77);
         y.end(1);
         y.sync();
-        dueSector(y, 2, Bytes.log(1, 2, 1, 0));
-        dueSector(y, 1, Bytes.head(1, 1));
+        y.dueSector(2, Bytes.log(1, 2, 1, 0));
+        y.dueSector(1, Bytes.head(1, 1));
     }
 
     private static void cut() {
         Check.part("5, cut");
-        LibraryDisk x = new LibraryDisk(6);
+        Disk x = new Disk(6);
         Check.same("cut(0, 0) without a sync", x.cut(0, 0), STATE);
         Check.same("cut(9, 99) without a sync", x.cut(9, 99), STATE);
         x.end(1);
@@ -273,39 +261,34 @@ public final class PromisesTest {
     /** A sync of two sectors and a head, broken off at every place. */
     private static void cutEachPlace() {
         Check.part("5, cut at each place");
+        int[][] old = {Bytes.head(2, 1), Bytes.head(1, 1), Bytes.log(1, 2, 1, 0), new int[64], new int[64]};
+        old[3][60] = 5;
+        int[][] now = old.clone();
+        now[1] = Bytes.head(3, 3);
+        now[3] = Bytes.log(3, 46, Bytes.rows(2, 2, 3, 40));
+        now[4] = Bytes.log(3, 42, Bytes.rows(0, 40));
+        int[] order = {3, 4, 1};
         for (int keep = 0; keep <= 3; keep++) {
             for (int torn = 0; torn <= 64; torn++) {
-                LibraryDisk x = new LibraryDisk(6);
+                Disk x = new Disk(6);
                 x.end(1);
                 x.sync();
                 x.sync();
                 x.poke(3, 60, 5);
-                int[][] old = {Bytes.head(2, 1), Bytes.head(1, 1), Bytes.log(1, 2, 1, 0), new int[64], new int[64]};
-                old[3][60] = 5;
-                put(x, 2, 2);
-                put(x, 3, 40);
-                put(x, 0, 40);
+                x.put(2, 2);
+                x.put(3, 40);
+                x.put(0, 40);
                 x.sync();
-                int[] order = {3, 4, 1};
-                int[][] now = new int[5][64];
-                for (int s = 0; s < 5; s++) {
-                    for (int i = 0; i < 64; i++) {
-                        now[s][i] = x.peek(s, i);
-                    }
-                }
                 x.cut(keep, torn);
                 for (int w = 0; w < 3; w++) {
                     int bytes = w < keep ? 64 : w == keep ? torn : 0;
-                    int[] want = old[order[w]].clone();
-                    System.arraycopy(now[order[w]], 0, want, 0, bytes);
-                    dueSector(x, order[w], want);
+                    x.dueSector(order[w], Bytes.torn(old[order[w]], now[order[w]], bytes));
                 }
-                dueSector(x, 0, old[0]);
-                dueSector(x, 2, old[2]);
+                x.dueSector(0, old[0]);
+                x.dueSector(2, old[2]);
                 // Two heads differ in bytes 3 and 7 and in their sums, so that 63 bytes may do.
-                int[] torn1 = old[1].clone();
-                System.arraycopy(now[1], 0, torn1, 0, keep > 2 ? 64 : keep == 2 ? torn : 0);
-                boolean acknowledged = Bytes.sumIsRight(torn1) && torn1[3] == 3;
+                int[] head = Bytes.torn(old[1], now[1], keep > 2 ? 64 : keep == 2 ? torn : 0);
+                boolean acknowledged = Bytes.sumIsRight(head) && head[3] == 3;
                 Check.same("start() behind cut(" + keep + ", " + torn + ")", x.start(), acknowledged ? 4 : 1);
                 Check.same("bad()", x.bad(), 0);
             }
@@ -315,7 +298,7 @@ public final class PromisesTest {
     private static void cutAndPokes() {
         Check.part("5, cut and pokes");
         for (int keep = 0; keep <= 2; keep++) {
-            LibraryDisk x = new LibraryDisk(6);
+            Disk x = new Disk(6);
             x.poke(1, 0, 0x40);
             x.poke(2, 1, 0x40);
             x.poke(2, 33, 0x40);
@@ -342,7 +325,7 @@ public final class PromisesTest {
 
     private static void off() {
         Check.part("6, off");
-        LibraryDisk x = new LibraryDisk(5);
+        Disk x = new Disk(5);
         x.end(0);
         x.sync();
         x.end(1);
@@ -361,24 +344,24 @@ public final class PromisesTest {
 
     private static void start() {
         Check.part("7, start");
-        LibraryDisk x = new LibraryDisk(6);
+        Disk x = new Disk(6);
         Check.same("start() while ON", x.start(), STATE);
         x.off();
         Check.same("start() of 0s", x.start(), 0);
         Check.same("state(0)", x.state(0), 0);
-        put(x, 1, 3);
-        put(x, 2, 40);
-        put(x, 3, 20);
+        x.put(1, 3);
+        x.put(2, 40);
+        x.put(3, 20);
         x.sync();
-        put(x, 0, 0);
+        x.put(0, 0);
         x.off();
         Check.same("start()", x.start(), 3);
         Check.same("row(0, 0)", x.row(0, 0), 1);
         Check.same("row(1, 1)", x.row(1, 1), 40);
         Check.same("row(2, 2)", x.row(2, 2), 3);
-        Check.same("at(0, 2)", at(x, 0, 2), 102);
-        Check.same("at(1, 39)", at(x, 1, 39), 139);
-        Check.same("at(2, 19)", at(x, 2, 19), 119);
+        Check.same("at(0, 2)", x.at(0, 2), 102);
+        Check.same("at(1, 39)", x.at(1, 39), 139);
+        Check.same("at(2, 19)", x.at(2, 19), 119);
         Check.same("sync(): nothing is to be laid down", x.sync(), 1);
         Check.same("state(0): the numbers go on", x.state(0), 2);
         x.off();
@@ -390,10 +373,10 @@ public final class PromisesTest {
         x.poke(1, 63, 1);
         Check.same("start() from the other head", x.start(), 3);
         Check.same("state(0)", x.state(0), 1);
-        put(x, 1, 1);
+        x.put(1, 1);
         x.sync();
-        dueSector(x, 4, Bytes.log(2, 3, 1, 1, 100));
-        dueSector(x, 0, Bytes.head(2, 3));
+        x.dueSector(4, Bytes.log(2, 3, 1, 1, 100));
+        x.dueSector(0, Bytes.head(2, 3));
     }
 
     private static void startChoosesHead() {
@@ -406,10 +389,10 @@ public final class PromisesTest {
             {9, 0x01000000L, 8, 1, 1}, {9, 4, 8, 4, -1}, {7, 2, 8, 4, 0},
         };
         for (long[] h : heads) {
-            LibraryDisk x = new LibraryDisk(5);
+            Disk x = new Disk(5);
             x.off();
-            Bytes.forge(x, 0, Bytes.head(h[0], h[1]));
-            Bytes.forge(x, 1, Bytes.head(h[2], h[3]));
+            x.forge(0, Bytes.head(h[0], h[1]));
+            x.forge(1, Bytes.head(h[2], h[3]));
             String of = " of heads " + h[0] + ", " + h[1] + " and " + h[2] + ", " + h[3];
             Check.same("start()" + of, x.start(), h[4] < 0 ? STATE : 0);
             if (h[4] >= 0) {
@@ -418,17 +401,17 @@ public final class PromisesTest {
                 Check.same("state(1)" + of, x.state(1), h[k + 1]);
                 x.sync();
                 Check.same("state(0) behind a sync" + of, x.state(0), (int) (h[k] + 1));
-                dueSector(x, (int) ((h[k] + 1) % 2), Bytes.head((h[k] + 1) % (1L << 32), h[k + 1]));
+                x.dueSector((int) ((h[k] + 1) % 2), Bytes.head((h[k] + 1) % (1L << 32), h[k + 1]));
             }
         }
 
         // A head's sum counts, and nothing behind its two numbers does.
-        LibraryDisk y = new LibraryDisk(5);
+        Disk y = new Disk(5);
         y.off();
         int[] odd = Bytes.head(3, 1);
         odd[30] = 99;
         Bytes.putNumber(odd, 60, Bytes.sum(odd));
-        Bytes.forge(y, 0, odd);
+        y.forge(0, odd);
         Check.same("start()", y.start(), 0);
         Check.same("state(0)", y.state(0), 3);
         y.off();
@@ -439,7 +422,7 @@ public final class PromisesTest {
 
     private static void rowsCounted() {
         Check.part("8, rows");
-        LibraryDisk x = new LibraryDisk(5);
+        Disk x = new Disk(5);
         Check.same("rows()", x.rows(), 0);
         x.add(1);
         Check.same("rows() with bytes collected", x.rows(), 0);
@@ -458,10 +441,10 @@ public final class PromisesTest {
 
     private static void row() {
         Check.part("9, row");
-        LibraryDisk x = new LibraryDisk(5);
+        Disk x = new Disk(5);
         Check.same("row(0, 0) without rows", x.row(0, 0), NONE);
-        put(x, 3, 4);
-        put(x, 0, 0);
+        x.put(3, 4);
+        x.put(0, 0);
         Check.same("row(0, 0)", x.row(0, 0), 3);
         Check.same("row(0, 1)", x.row(0, 1), 4);
         Check.same("row(0, 2)", x.row(0, 2), -1);
@@ -474,7 +457,7 @@ public final class PromisesTest {
         Check.same("row(max, 0)", x.row(Integer.MAX_VALUE, 0), NONE);
         Check.same("row(min, 0)", x.row(Integer.MIN_VALUE, 0), NONE);
         x.sync();
-        put(x, 1, 1);
+        x.put(1, 1);
         Check.same("row(1, 2)", x.row(1, 2), 2);
         Check.same("row(2, 2)", x.row(2, 2), -1);
         x.sync();
@@ -489,28 +472,28 @@ public final class PromisesTest {
 
     private static void at() {
         Check.part("10, at");
-        LibraryDisk x = new LibraryDisk(5);
-        Check.same("at(0, 0) without rows", at(x, 0, 0), NONE);
+        Disk x = new Disk(5);
+        Check.same("at(0, 0) without rows", x.at(0, 0), NONE);
         x.add(255);
         x.add(128);
         x.end(0);
         x.end(0);
         for (int turn = 0; turn < 3; turn++) {
-            Check.same("at(0, 0)", at(x, 0, 0), 255);
-            Check.same("at(0, 1)", at(x, 0, 1), 128);
-            Check.same("at(0, 2)", at(x, 0, 2), THROWS);
-            Check.same("at(0, -1)", at(x, 0, -1), THROWS);
-            Check.same("at(0, max)", at(x, 0, Integer.MAX_VALUE), THROWS);
-            Check.same("at(0, min)", at(x, 0, Integer.MIN_VALUE), THROWS);
-            Check.same("at(1, 0) of an empty row", at(x, 1, 0), THROWS);
-            Check.same("at(2, 0)", at(x, 2, 0), NONE);
-            Check.same("at(2, 99)", at(x, 2, 99), NONE);
-            Check.same("at(-1, -1)", at(x, -1, -1), NONE);
+            Check.same("at(0, 0)", x.at(0, 0), 255);
+            Check.same("at(0, 1)", x.at(0, 1), 128);
+            Check.same("at(0, 2)", x.at(0, 2), THROWS);
+            Check.same("at(0, -1)", x.at(0, -1), THROWS);
+            Check.same("at(0, max)", x.at(0, Integer.MAX_VALUE), THROWS);
+            Check.same("at(0, min)", x.at(0, Integer.MIN_VALUE), THROWS);
+            Check.same("at(1, 0) of an empty row", x.at(1, 0), THROWS);
+            Check.same("at(2, 0)", x.at(2, 0), NONE);
+            Check.same("at(2, 99)", x.at(2, 99), NONE);
+            Check.same("at(-1, -1)", x.at(-1, -1), NONE);
             if (turn == 0) {
                 x.sync();
             } else {
                 x.off();
-                Check.same("at(0, 0) while OFF", at(x, 0, 0), NONE);
+                Check.same("at(0, 0) while OFF", x.at(0, 0), NONE);
                 x.start();
             }
         }
@@ -518,13 +501,13 @@ public final class PromisesTest {
 
     private static void poke() {
         Check.part("11, poke");
-        LibraryDisk x = new LibraryDisk(5);
+        Disk x = new Disk(5);
         x.add(1);
         x.end(1);
         x.sync();
         Check.same("poke(2, 7, 0x103)", x.poke(2, 7, 0x103), 2);
         Check.same("peek(2, 7)", x.peek(2, 7), 2);
-        Check.same("at(0, 0): rows stay", at(x, 0, 0), 1);
+        Check.same("at(0, 0): rows stay", x.at(0, 0), 1);
         Check.same("poke(2, 7, -1)", x.poke(2, 7, -1), 253);
         Check.same("poke(2, 7, 0)", x.poke(2, 7, 0), 253);
         Check.same("poke(-1, 0, 1)", x.poke(-1, 0, 1), NONE);
@@ -534,8 +517,8 @@ public final class PromisesTest {
         Check.same("poke(1, -64, 1)", x.poke(1, -64, 1), NONE);
         Check.same("poke(67108864, 0, 1)", x.poke(67108864, 0, 1), NONE);
         Check.same("poke(min, max, 1)", x.poke(Integer.MIN_VALUE, Integer.MAX_VALUE, 1), NONE);
-        dueSector(x, 0, new int[64]);
-        dueSector(x, 1, Bytes.head(1, 1));
+        x.dueSector(0, new int[64]);
+        x.dueSector(1, Bytes.head(1, 1));
         Check.same("poke(4, 63, 255)", x.poke(4, 63, 255), 255);
         x.off();
         Check.same("poke(4, 63, 1) while OFF", x.poke(4, 63, 1), 254);
@@ -543,7 +526,7 @@ public final class PromisesTest {
 
     private static void peek() {
         Check.part("12, peek");
-        LibraryDisk x = new LibraryDisk(5);
+        Disk x = new Disk(5);
         Check.same("peek(0, 0)", x.peek(0, 0), 0);
         Check.same("peek(4, 63)", x.peek(4, 63), 0);
         Check.same("peek(5, 0)", x.peek(5, 0), NONE);
@@ -560,7 +543,7 @@ public final class PromisesTest {
 
     private static void wrong() {
         Check.part("13, wrong");
-        LibraryDisk x = new LibraryDisk(5);
+        Disk x = new Disk(5);
         Check.same("wrong(0)", x.wrong(0), NONE);
         x.poke(1, 0, 1);
         x.poke(3, 59, 128);
@@ -582,10 +565,10 @@ public final class PromisesTest {
 
     private static void bad() {
         Check.part("14, bad");
-        LibraryDisk x = new LibraryDisk(7);
+        Disk x = new Disk(7);
         Check.same("bad()", x.bad(), 0);
         for (int i = 0; i < 4; i++) {
-            put(x, i, i);
+            x.put(i, i);
             x.sync();
         }
         x.poke(3, 20, 1);
@@ -647,12 +630,12 @@ public final class PromisesTest {
     }
 
     private static void dueForm(String form, int[] sector, int rows) {
-        LibraryDisk x = new LibraryDisk(5);
+        Disk x = new Disk(5);
         x.end(2);
         x.sync();
         x.end(1);
         x.sync();
-        Bytes.forge(x, 2, sector);
+        x.forge(2, sector);
         x.off();
         Check.same("start() with " + form, x.start(), Math.max(rows, 0) + 1);
         Check.same("bad() with " + form, x.bad(), rows < 0 ? 1 : 0);
@@ -662,7 +645,7 @@ public final class PromisesTest {
     /** A sector spoilt and mended: a start then finds more rows than end would take. */
     private static void moreRowsThanEndTakes() {
         Check.part("3 and 7, more than 300 rows");
-        LibraryDisk x = new LibraryDisk(40);
+        Disk x = new Disk(40);
         for (int i = 0; i < 300; i++) {
             x.end(i % 4);
         }
@@ -685,7 +668,7 @@ public final class PromisesTest {
 
     private static void backup() {
         Check.part("15, backup");
-        LibraryDisk x = new LibraryDisk(5);
+        Disk x = new Disk(5);
         Check.same("backup()", x.backup(), 0);
         x.end(1);
         x.sync();
@@ -698,7 +681,7 @@ public final class PromisesTest {
         Check.same("differ(): the backup stays", x.differ(), 1);
         x.restore();
         Check.same("peek(4, 4)", x.peek(4, 4), 4);
-        dueSector(x, 0, Bytes.head(2, 1));
+        x.dueSector(0, Bytes.head(2, 1));
         x.poke(0, 0, 1);
         x.start();
         Check.same("backup(): the number of the head that was read", x.backup(), 1);
@@ -706,33 +689,33 @@ public final class PromisesTest {
 
     private static void restore() {
         Check.part("16, restore");
-        LibraryDisk x = new LibraryDisk(5);
+        Disk x = new Disk(5);
         Check.same("restore() while ON", x.restore(), STATE);
         x.off();
         Check.same("restore() without a backup", x.restore(), STATE);
         x.start();
-        put(x, 1, 5);
+        x.put(1, 5);
         x.sync();
         x.backup();
         Check.same("restore() while ON", x.restore(), STATE);
-        put(x, 2, 6);
+        x.put(2, 6);
         x.sync();
         x.off();
         Check.same("restore()", x.restore(), 1);
         Check.same("state(2)", x.state(2), 0);
-        dueSector(x, 0, new int[64]);
-        dueSector(x, 1, Bytes.head(1, 1));
-        dueSector(x, 3, new int[64]);
+        x.dueSector(0, new int[64]);
+        x.dueSector(1, Bytes.head(1, 1));
+        x.dueSector(3, new int[64]);
         x.poke(2, 7, 1);
         Check.same("restore() once more", x.restore(), 1);
         Check.same("start()", x.start(), 1);
-        Check.same("at(0, 4)", at(x, 0, 4), 104);
+        Check.same("at(0, 4)", x.at(0, 4), 104);
         Check.same("state(0)", x.state(0), 1);
     }
 
     private static void differ() {
         Check.part("17, differ");
-        LibraryDisk x = new LibraryDisk(5);
+        Disk x = new Disk(5);
         Check.same("differ() without a backup", x.differ(), NONE);
         x.backup();
         Check.same("differ()", x.differ(), 0);
@@ -757,10 +740,10 @@ public final class PromisesTest {
 
     private static void state() {
         Check.part("18, state");
-        LibraryDisk x = new LibraryDisk(6);
+        Disk x = new Disk(6);
         dueState(x, 0, 0, 1);
-        put(x, 0, 40);
-        put(x, 0, 40);
+        x.put(0, 40);
+        x.put(0, 40);
         dueState(x, 0, 0, 1);
         x.sync();
         dueState(x, 1, 2, 1);
@@ -777,7 +760,7 @@ public final class PromisesTest {
         dueState(x, 2, 2, 0);
     }
 
-    private static void dueState(LibraryDisk x, int number, int count, int on) {
+    private static void dueState(Disk x, int number, int count, int on) {
         Check.same("state(0)", x.state(0), number);
         Check.same("state(1)", x.state(1), count);
         Check.same("state(2)", x.state(2), on);
