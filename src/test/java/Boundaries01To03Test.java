@@ -389,5 +389,7 @@ public final class Boundaries01To03Test {
         Check.same("start()", x.start(), 327);
         Check.same("end(0)", x.end(0), FULL);
         Check.same("rows()", x.rows(), 327);
+        Check.same("row(326, 0)", x.row(326, 0), 3);
+        Check.same("row(326, 2)", x.row(326, 2), 14);
     }
 }

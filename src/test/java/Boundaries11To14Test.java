@@ -358,6 +358,22 @@ public final class Boundaries11To14Test {
         dueForm(Bytes.log(1, 255), NONE);
     }
 
+    static void promise14ManyRowsInASector() {
+        int[] rows = new int[55];
+        dueForm(Bytes.log(1, 54, rows), 27);
+        dueForm(Bytes.log(1, 55, rows), NONE);
+        rows[53] = 1;
+        rows[52] = 1;
+        Disk x = dueForm(Bytes.log(1, 55, rows), 27);
+        Check.same("row(26, 0)", x.row(26, 0), 1);
+        Check.same("row(26, 1)", x.row(26, 1), 1);
+    }
+
+    static void promise14NotBadByWhatTheDocumentDoesNotName() {
+        dueForm(Bytes.log(77, 5, 3, 1, 9, 0, 0), 2);
+        dueForm(Bytes.log(1, 2, 3, 0, 9, 9, 9), 1);
+    }
+
     static void promise14NoRowOfABadSectorIsRead() {
         Disk x = dueForm(Bytes.log(1, 6, 3, 0, 3, 0, 4, 0), NONE);
         Check.same("rows()", x.rows(), 1);

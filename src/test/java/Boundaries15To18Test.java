@@ -288,6 +288,21 @@ public final class Boundaries15To18Test {
         Check.same("state(1)", x.state(1), 1);
     }
 
+    static void promise18TheLatestSyncWhileOff() {
+        Disk x = new Disk(5);
+        x.end(0);
+        x.sync();
+        x.end(0);
+        x.sync();
+        x.cut(0, 0);
+        Check.same("state(0) behind a cut", x.state(0), 2);
+        Check.same("state(1) behind a cut", x.state(1), 2);
+        x.start();
+        x.off();
+        Check.same("state(0) behind off", x.state(0), 1);
+        Check.same("state(1) behind off", x.state(1), 1);
+    }
+
     static void promise18OnOrOff() {
         Disk x = new Disk(3);
         x.off();

@@ -28,8 +28,6 @@ public final class PromisesTest {
         peek();
         wrong();
         bad();
-        badForms();
-        moreRowsThanEndTakes();
         backup();
         restore();
         differ();
@@ -596,74 +594,6 @@ public final class PromisesTest {
         Check.same("end(0): behind the bad sector", x.end(0), 3);
         x.sync();
         Check.same("row(3, 2)", x.row(3, 2), 6);
-    }
-
-    /** Sectors with right sums: how many rows are read of each, or NONE if it is bad. */
-    private static void badForms() {
-        Check.part("14, forms of bad sectors");
-        int[] fullOfEmptyRows = new int[55];
-        int[] longRow = new int[55];
-        longRow[1] = 41;
-        dueForm("nothing", Bytes.log(1, 0), 0);
-        dueForm("two rows", Bytes.log(1, 5, 3, 1, 9, 0, 0), 2);
-        dueForm("another sync's number", Bytes.log(77, 5, 3, 1, 9, 0, 0), 2);
-        dueForm("bytes behind those told", Bytes.log(1, 2, 3, 0, 9, 9, 9), 1);
-        dueForm("KIND 4", Bytes.log(1, 2, 4, 0), NONE);
-        dueForm("KIND 255", Bytes.log(1, 2, 255, 0), NONE);
-        dueForm("KIND 4 of the second", Bytes.log(1, 4, 1, 0, 4, 0), NONE);
-        dueForm("a row cut short", Bytes.log(1, 4, 1, 3, 9, 9), NONE);
-        dueForm("a row without its size", Bytes.log(1, 3, 1, 0, 1), NONE);
-        dueForm("size 41", Bytes.log(1, 43, longRow), NONE);
-        longRow[1] = 40;
-        dueForm("size 40", Bytes.log(1, 42, longRow), 1);
-        dueForm("54 bytes", Bytes.log(1, 54, fullOfEmptyRows), 27);
-        dueForm("55 bytes, one of them alone", Bytes.log(1, 55, fullOfEmptyRows), NONE);
-        fullOfEmptyRows[53] = 1;
-        fullOfEmptyRows[52] = 1;
-        dueForm("55 bytes", Bytes.log(1, 55, fullOfEmptyRows), 27);
-        dueForm("56 bytes", Bytes.log(1, 56, new int[55]), NONE);
-        dueForm("255 bytes", Bytes.log(1, 255, new int[55]), NONE);
-        int[] row55 = new int[55];
-        row55[1] = 40;
-        row55[43] = 12;
-        dueForm("a row that reaches into the sum", Bytes.log(1, 56, row55), NONE);
-    }
-
-    private static void dueForm(String form, int[] sector, int rows) {
-        Disk x = new Disk(5);
-        x.end(2);
-        x.sync();
-        x.end(1);
-        x.sync();
-        x.forge(2, sector);
-        x.off();
-        Check.same("start() with " + form, x.start(), Math.max(rows, 0) + 1);
-        Check.same("bad() with " + form, x.bad(), rows < 0 ? 1 : 0);
-        Check.same("row(.., 2) with " + form, x.row(Math.max(rows, 0), 2), 3);
-    }
-
-    /** A sector spoilt and mended: a start then finds more rows than end would take. */
-    private static void moreRowsThanEndTakes() {
-        Check.part("3 and 7, more than 300 rows");
-        Disk x = new Disk(40);
-        for (int i = 0; i < 300; i++) {
-            x.end(i % 4);
-        }
-        x.sync();
-        x.poke(2, 5, 1);
-        x.off();
-        Check.same("start()", x.start(), 273);
-        for (int i = 273; i < 300; i++) {
-            Check.same("end(3)", x.end(3), i);
-        }
-        Check.same("end(3)", x.end(3), FULL);
-        x.sync();
-        x.poke(2, 5, 1);
-        x.off();
-        Check.same("start()", x.start(), 327);
-        Check.same("end(0)", x.end(0), FULL);
-        Check.same("row(326, 0)", x.row(326, 0), 3);
-        Check.same("row(326, 2)", x.row(326, 2), 14);
     }
 
     private static void backup() {
