@@ -270,6 +270,19 @@ public final class Boundaries11To14Test {
         Check.same("bad() with the sector of a sync broken off", x.bad(), 0);
     }
 
+    static void promise14HeadsDoNotCount() {
+        for (int head = 0; head < 2; head++) {
+            Disk x = new Disk(4);
+            x.end(0);
+            x.sync();
+            x.sync();
+            x.poke(head, 9, 1);
+            x.off();
+            Check.same("start()", x.start(), 1);
+            Check.same("bad() with head " + head + " spoilt", x.bad(), 0);
+        }
+    }
+
     static void promise14AllSectorsMayBeBad() {
         Disk x = new Disk(40);
         for (int i = 0; i < 38; i++) {
@@ -343,6 +356,12 @@ public final class Boundaries11To14Test {
         dueForm(Bytes.log(1, 7, 3, 3, 9, 9, 9), 2);
         dueForm(Bytes.log(1, 1, 3), NONE);
         dueForm(Bytes.log(1, 1, 3, 0), NONE);
+        dueForm(Bytes.log(1, 2, Bytes.rows(3, 40)), NONE);
+        // Behind the row that is too long there is one more, which would reach out of the sector.
+        int[] sector = Bytes.log(1, 2, Bytes.rows(3, 40, 2, 11));
+        sector[48] = 40;
+        Bytes.putNumber(sector, 60, Bytes.sum(sector));
+        dueForm(sector, NONE);
     }
 
     static void promise14AtMost55Bytes() {
